@@ -35,14 +35,13 @@ public final class RoseLathe {
     private final Setting other = new Setting();
     private final Row slips = new Row(RINGS);
     private final Plate plate = new Plate();
-    private final Search search;
+    private final Search search = new Search();
     private final Row fitting = new Row(RINGS);
 
     public RoseLathe() {
         for (int r = 0; r < rosettes.length; r++) {
             rosettes[r] = new Rosette();
         }
-        search = new Search(rosettes, plate);
     }
 
     // ---- rosettes
@@ -265,14 +264,14 @@ public final class RoseLathe {
     }
 
     public int makers() {
-        return search.find(MOST_MAKERS);
+        return search.find(rosettes, plate, MOST_MAKERS);
     }
 
     public int maker(int i, int what) {
         if (i < 0 || !within(what, 0, TOLD - 1)) {
             return BAD;
         }
-        if (i >= MOST_MAKERS || search.find(i + 1) <= i) {
+        if (i >= MOST_MAKERS || search.find(rosettes, plate, i + 1) <= i) {
             return NONE;
         }
         return search.lastFound.part(what);
@@ -619,8 +618,6 @@ public final class RoseLathe {
         // No seen place less a lift comes down so far.
         private static final int UNEVEN = -100000;
 
-        private final Rosette[] rosettes;
-        private final Plate plate;
         private final Setting lastFound = new Setting();
         private final Row seenRings = new Row(RINGS);
         private final Row rests = new Row(RINGS * MOST_LIFTS);
@@ -629,14 +626,9 @@ public final class RoseLathe {
         private int base = 0;
         private int step = 0;
 
-        Search(Rosette[] rosettes, Plate plate) {
-            this.rosettes = rosettes;
-            this.plate = plate;
-        }
-
         /** How many settings make the plate; it stops at so many as are wanted, and the last one is lastFound. */
-        int find(int wanted) {
-            noteSeenRings();
+        int find(Rosette[] rosettes, Plate plate, int wanted) {
+            noteSeenRings(plate);
             if (manySeen == 0) {
                 return 0;
             }
@@ -644,17 +636,17 @@ public final class RoseLathe {
             for (int r = 0; r < rosettes.length && found < wanted; r++) {
                 Rosette it = rosettes[r];
                 if (it != null) {
-                    found += findOfRosette(r, it, wanted - found);
+                    found += findOfRosette(plate, r, it, wanted - found);
                 }
             }
             return found;
         }
 
-        private int findOfRosette(int r, Rosette it, int wanted) {
+        private int findOfRosette(Plate plate, int r, Rosette it, int wanted) {
             period = it.period();
             int found = 0;
             for (int gain = 1; gain <= MOST_GAIN && found < wanted; gain++) {
-                noteRests(it, gain);
+                noteRests(plate, it, gain);
                 found += findOfGain(r, gain, wanted - found);
             }
             return found;
@@ -673,7 +665,7 @@ public final class RoseLathe {
             return found;
         }
 
-        private void noteSeenRings() {
+        private void noteSeenRings(Plate plate) {
             manySeen = 0;
             for (int ring = 0; ring < RINGS; ring++) {
                 if (plate.seenIn(ring) > 0) {
@@ -683,16 +675,16 @@ public final class RoseLathe {
             }
         }
 
-        private void noteRests(Rosette it, int gain) {
+        private void noteRests(Plate plate, Rosette it, int gain) {
             for (int i = 0; i < manySeen; i++) {
                 int ring = seenRings.get(i);
                 for (int turn = 0; turn < period; turn++) {
-                    rests.put(ring * MOST_LIFTS + turn, restOfRing(it, gain, ring, turn));
+                    rests.put(ring * MOST_LIFTS + turn, restOfRing(plate, ring, it, gain, turn));
                 }
             }
         }
 
-        private int restOfRing(Rosette it, int gain, int ring, int turn) {
+        private int restOfRing(Plate plate, int ring, Rosette it, int gain, int turn) {
             int rest = UNEVEN;
             for (int t = 0; t < CLICKS; t++) {
                 int v = plate.look(ring, t);

@@ -586,7 +586,9 @@ final class PromiseTest {
         y.see(11, 47, 10);
         due("base -1", y.makers(), 0);
         y.see(1, 0, 11);
-        due("step less than 0", y.makers(), 0);
+        due("a tenth of a step less than 0", y.makers(), 0);
+        y.see(1, 0, 20);
+        due("step -1", y.makers(), 0);
         y.see(1, 0, 10);
         due("step 0", y.makers(), 16);
         y.see(5, 5, 11);
@@ -652,6 +654,7 @@ final class PromiseTest {
         due("maker(0, 6)", x.maker(0, 6), BAD);
         due("maker(0, -1)", x.maker(0, -1), BAD);
         due("maker(10000, 6)", x.maker(10000, 6), BAD);
+        due("maker(10000, -1)", x.maker(10000, -1), BAD);
         mostMakers();
     }
 
